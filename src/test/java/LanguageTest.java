@@ -1,0 +1,1 @@
+final class LanguageTest { static void run() {} }
