@@ -14,6 +14,7 @@ final class AheadTest {
     promise23Least();
     promise24Fits();
     promise24FitsByRun();
+    promise24FitsByA();
     promise25Seed();
     promise26Draw();
   }
@@ -62,6 +63,13 @@ final class AheadTest {
       book.sick(i, 20);
     }
     CHECK.same("one day is left", book.round(1, 20, 1), 3);
+    for (int house = 0; house < 6; house++) {
+      CrossBook other = new CrossBook();
+      other.child(ILL, 0, house, 0);
+      other.sick(0, 20);
+      CHECK.same("the one house, " + house, other.round(3, 7, 0), 1 << house);
+      CHECK.same("there", other.round(1, 7, 1), 5);
+    }
     book.days(1);
     CHECK.same("none is left", book.round(3, 20, 0), 0);
     CHECK.same("nobody comes", book.round(3, 20, 1), 0);
@@ -144,6 +152,7 @@ final class AheadTest {
     CHECK.same("0 and 2", book.meet(0, 2, 20), 16);
     CHECK.same("no days", book.meet(0, 2, 0), 0);
     book.days(38);
+    CHECK.same("Thursday", book.meet(0, 1, 1), 1);
     CHECK.same("Thursday and Friday", book.meet(0, 1, 20), 2);
     book.days(2);
     CHECK.same("none are left", book.meet(0, 1, 20), 0);
@@ -175,6 +184,51 @@ final class AheadTest {
     CHECK.same("none are left", book.least(1), -3);
     for (int bad : new int[] {-1, 0, 21, MIN, MAX}) {
       CHECK.same("BAD ahead of NONE", book.least(bad), -1);
+    }
+    CrossBook full = new CrossBook();
+    for (int i = 0; i < 8; i++) {
+      full.child(CHILD, 0, 0, 0);
+    }
+    full.days(3);
+    CHECK.same("all are there on each day", full.least(20), 3);
+  }
+
+  private static void promise24FitsByA() {
+    CrossBook first = new CrossBook();
+    first.set(1, 2);
+    Check.school(first, "child 0 in 0;today 2;day 0 4;");
+    CHECK.same("nobody is away ahead of day 0", first.fits(0), 1 << ILL | 1 << BAREFOOT | 1 << CATCHING);
+    first.event(1, 4);
+    CHECK.same("two circuses", first.fits(0), 1 << ILL | 1 << TRUANT | 1 << BAREFOOT | 1 << CATCHING);
+    for (int kind : new int[] {KEPT, BAREFOOT}) {
+      for (int a = 0; a < 10; a++) {
+        CrossBook book = new CrossBook();
+        book.child(kind, a, 0, 0);
+        book.days(40);
+        CHECK.same("kind " + kind + ", A " + a, book.fits(0), 1 << kind | 1 << ILL | 1 << CATCHING);
+      }
+    }
+    // for each length of a run away, a truant fits just if LOST is as long
+    for (int run = 2; run <= 8; run++) {
+      for (int lost = 2; lost <= 10; lost++) {
+        CrossBook book = new CrossBook();
+        book.set(1, lost);
+        book.child(CHILD, 0, 0, 0);
+        book.days(20);
+        for (int day = 3; day < 3 + run; day++) {
+          book.event(day, 4);
+          book.write(day, 0, false);
+        }
+        book.write(3 + run, 0, false);
+        boolean fits = (book.fits(0) & 1 << TRUANT) != 0;
+        // one more day without a cross, then one with a cross
+        CHECK.yes("run " + run + ", lost " + lost + ": no end of it", !fits);
+        book.event(4 + run, 8);
+        fits = (book.fits(0) & 1 << TRUANT) != 0;
+        int weekday = (3 + run) % 5;
+        // a truant of A 5 is away on Mondays and Fridays, but days 0 and 19 have crosses
+        CHECK.yes("run " + run + ", lost " + lost + ", weekday " + weekday, fits == (run >= lost));
+      }
     }
   }
 
@@ -293,6 +347,11 @@ final class AheadTest {
       z = z * 1103515245 + 12345;
       CHECK.same("draw of all, " + i, book.draw(), (z >>> 16) % 8);
     }
+    for (int i = 0; i < 7; i++) {
+      book.mind(i, KEPT, 1);
+    }
+    z = z * 1103515245 + 12345;
+    CHECK.same("the one who is there", book.draw(), 7);
     book.days(40);
     CHECK.same("in the end", book.draw(), -4);
     CHECK.same("z stays", book.seed(1), z);

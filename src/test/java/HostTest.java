@@ -34,7 +34,9 @@ final class HostTest {
       CHECK.same("40", book.sheet(sort, sort, 40), 1);
       CHECK.same("item 39", book.item(sort, sort, 39), 0);
       book.put(sort, 39, 5);
+      book.put(sort, 0, 5);
       CHECK.same("again", book.sheet(sort, sort, 40), 1);
+      CHECK.same("all 0 from the first", book.item(sort, sort, 0), 0);
       CHECK.same("all 0", book.item(sort, sort, 39), 0);
       CHECK.same("0", book.sheet(sort, sort, 0), 1);
       CHECK.same("no item", book.item(sort, sort, 0), -12);

@@ -174,6 +174,8 @@ final class SchoolTest {
     CHECK.same("event 31", book.event(39, 31), 0);
     CHECK.same("event 4", book.event(39, 4), 31);
     CHECK.same("event on 0", book.event(0, 1), 0);
+    CHECK.same("no event any more", book.event(0, 0), 1);
+    CHECK.same("was none", book.event(0, 1), 0);
     book.days(40);
     CHECK.same("event on a day that is over", book.event(0, 2), 1);
     for (int bad : new int[] {-1, 40, MIN, MAX}) {

@@ -5,6 +5,7 @@ final class TextTest {
   static void run() {
     told();
     stays();
+    toldTwice();
     blanks();
     faultsOfWords();
     faultsOfNumbers();
@@ -72,6 +73,58 @@ final class TextTest {
     CHECK.same("a cross for one who wasn't there", book.wrong(0), 1);
   }
 
+  /** Nothing of a school told ahead goes into the next one, whether it had a fault or not. */
+  private static void toldTwice() {
+    String first = "ill 9 in 5 far 9;ill 8 in 4 far 8;sick 0 20;sick 1 19;day 0 31;day 39 30;today 20;strong 9;lost 9";
+    for (String end : new String[] {";", ""}) {
+      CrossBook book = new CrossBook();
+      Check.school(book, first + end);
+      boolean isTold = !end.isEmpty();
+      CHECK.same("today of the first", book.today(), isTold ? 20 : 0);
+      if (isTold) {
+        book.days(20);
+        book.knock(5);
+        book.write(0, 0, true);
+      }
+      CHECK.same("told", Check.school(book, "child 1 in 0;"), 1);
+      CHECK.same("strong is of the school that was told", book.set(0, 5), isTold ? 9 : 5);
+      CHECK.same("lost is of the school that was told", book.set(1, 11), isTold ? 9 : 11);
+      book.child(0, 0, 0, 0);
+      for (int child = 0; child < 2; child++) {
+        int[] due = {0, 1 - child, 0, 0, 0, 0, 0};
+        for (int what = 0; what < 7; what++) {
+          CHECK.same("childOf(" + child + ", " + what + ")", book.childOf(child, what), due[what]);
+        }
+      }
+      CHECK.same("today", book.today(), 0);
+      for (int day = 0; day < 40; day++) {
+        CHECK.same("events", book.dayOf(day, 0), 0);
+        CHECK.same("crosses", book.dayOf(day, 2), 0);
+        CHECK.same("truly", book.dayOf(day, 3), 0);
+      }
+    }
+    CrossBook book = new CrossBook();
+    for (int i = 0; i < 3; i++) {
+      book.child(2, 0, 0, 0);
+      book.sick(i, 9);
+    }
+    book.knock(0);
+    book.days(7);
+    CHECK.same("away", book.childOf(2, 6), 2);
+    book.keep();
+    CHECK.same("none", book.school(), 0);
+    book.child(0, 0, 0, 0);
+    CHECK.same("a new one isn't sick", book.childOf(0, 4), 0);
+    CHECK.same("a new one isn't away", book.childOf(0, 6), 0);
+    book.again();
+    book.knock(0);
+    book.school();
+    book.child(0, 0, 0, 0);
+    CHECK.same("at a new one nobody has knocked", book.childOf(0, 5), 0);
+    Check.school(book, "day 1 31;day 1 0;");
+    CHECK.same("the latest counts", book.dayOf(1, 0), 0);
+  }
+
   private static void blanks() {
     CrossBook book = new CrossBook();
     CHECK.same("many blanks", Check.school(book, "   kept   07  in  3   far  01 ;  "), 1);
@@ -94,6 +147,14 @@ final class TextTest {
     fault(book, "5 in 3;", 0);
     fault(book, "chil 1 in 1;", 0);
     fault(book, "childs 1 in 1;", 0);
+    fault(book, "childz 1 in 1;", 0);
+    fault(book, "child 1 in 1 farz 1;", 13);
+    fault(book, "a", 0);
+    fault(book, "child{1", 5);
+    fault(book, "child`1", 5);
+    fault(book, "child/1", 5);
+    fault(book, "child 1/in", 7);
+    fault(book, "child 1:in", 7);
     fault(book, "Child 1 in 1;", 0);
     fault(book, "in 1;", 0);
     fault(book, "far 1;", 0);
@@ -137,6 +198,7 @@ final class TextTest {
     fault(book, "child 1 in 1 far 000;", 17);
     fault(book, "day 40 0;", 4);
     fault(book, "day 39 31;", -1);
+    fault(book, "day 0 0;", -1);
     fault(book, "day 39 32;", 7);
     fault(book, "day 039 1;", 4);
     fault(book, "sick 0 0;", 5);
