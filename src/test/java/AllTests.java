@@ -8,6 +8,16 @@ public final class AllTests {
     RowsTest.run();
     HostTest.run();
     KeptTest.run();
+    Edge.open();
+    TermsEdges.run();
+    SchoolEdges.run();
+    DayEdges.run();
+    TextEdges.run();
+    TrialEdges.run();
+    RowEdges.run();
+    HostEdges.run();
+    KeptEdges.run();
+    Edge.close();
     ModelTest.run();
     LanguageTest.run();
     Check.close();

@@ -38,6 +38,11 @@ final class Check {
     return book.school();
   }
 
+  /** How many things have been looked at. */
+  static int looks() {
+    return passed + failed;
+  }
+
   static int failures() {
     return failed;
   }
