@@ -54,10 +54,9 @@ abstract class Edge {
     String leftOver() {
       StringBuilder left = new StringBuilder();
       for (int i = 0; i < text.length(); i++) {
-        boolean counts = Character.isLetterOrDigit(text.charAt(i));
-        left.append(isTested[i] || !counts && left.length() == 0 ? "" : text.charAt(i));
+        left.append(isTested[i] ? '|' : text.charAt(i));
       }
-      return left.toString().matches("[^A-Za-z0-9]*") ? "" : left.toString();
+      return left.toString().replaceAll("[^A-Za-z0-9]*\\|[^A-Za-z0-9]*", "|").replaceAll("\\|+", " .. ").replaceAll("^[^A-Za-z0-9]*$", "");
     }
   }
 
