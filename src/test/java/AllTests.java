@@ -19,7 +19,10 @@ public final class AllTests {
     KeptEdges.run();
     Edge.close();
     ModelTest.run();
+    WildTest.run();
+    FaceTest.run();
     LanguageTest.run();
+    ReadmeTest.run();
     Check.close();
     if (Check.failures() != 0) {
       System.exit(1);
